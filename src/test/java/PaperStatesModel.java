@@ -12,20 +12,24 @@ import java.util.Set;
  * The second one keeps what was told, and works out every state from it when it is asked.
  */
 public final class PaperStatesModel {
-    private static final int RUNS = 3000;
-    private static final int CALLS = 512;
+    private static final int RUNS = 5000;
+    /** Few enough that one whole paper can be read behind them, within an object's 512 calls. */
+    private static final int CALLS = 260;
     private static final int[] ODD = {-1, -2, 5, 6, 7, 8, 11, 12, 13, 99, 100, 1000, 1001, 100000, 100001,
         Integer.MIN_VALUE, Integer.MAX_VALUE, Integer.MIN_VALUE + 1, Integer.MAX_VALUE - 2};
     private static final long[] ODD_LONGS = {-1, 0, 1, 999999999L, 1000000000L, 1000000001L, 4294967297L,
         10000000000L, Long.MIN_VALUE, Long.MAX_VALUE};
 
     public static void main(String[] args) {
-        int[] answers = new int[64];
+        int[] answers = new int[16];
         for (int run = 0; run < RUNS; run++) {
             Random dice = new Random(run);
             PaperStates x = new PaperStates();
             Model y = new Model();
             List<String> calls = new ArrayList<>();
+            if (run % 4 != 0) {
+                prepare(dice, x, y, calls);
+            }
             for (int i = 0; i < CALLS; i++) {
                 if (!sameAnswer(dice, x, y, calls, answers)) {
                     System.out.println("run " + run + ", call " + i + ":");
@@ -33,27 +37,44 @@ public final class PaperStatesModel {
                     System.exit(1);
                 }
             }
-            for (int n = 0; n < 6; n++) {
-                if (!paperOf(x, n).equals(y.paper(n))) {
-                    System.out.println("run " + run + ": '" + paperOf(x, n) + "', due is '" + y.paper(n) + "'");
-                    System.exit(1);
-                }
+            int n = dice.nextInt(Math.max(1, y.notices.size()));
+            String paper = paperOf(x, n);
+            if (!paper.equals(y.paper(n))) {
+                System.out.println("run " + run + ": '" + paper + "', due is '" + y.paper(n) + "'");
+                System.exit(1);
             }
         }
-        // A model test that never gets to the later states would say little.
+        // A model test that seldom gets to the later states would say little.
         for (int state = -5; state <= 5; state++) {
-            if (state != 0 && answers[state + 10] == 0) {
-                System.out.println("no event answered " + state);
+            if (state != 0 && answers[state + 10] < 500) {
+                System.out.println(answers[state + 10] + " events alone answered " + state);
                 System.exit(1);
             }
         }
         System.out.println("all runs are as the model's");
     }
 
+    /** Agreed notices and some rights, because dice alone seldom get a move as far as recovered. */
+    private static void prepare(Random dice, PaperStates x, Model y, List<String> calls) {
+        for (int n = 0; n < 2; n++) {
+            long grams = 1 + dice.nextInt(dice.nextBoolean() ? 1000000000 : 60);
+            calls.add("notice(" + grams + ", 0, 1500) " + x.notice(grams, 0, 1500) + " " + y.notice(grams, 0, 1500));
+            calls.add("country(" + n + ", 0, 3) " + x.country(n, 0, 3) + " " + y.country(n, 0, 3));
+            calls.add("says(" + n + ", 0, true) " + x.says(n, 0, true) + " " + y.says(n, 0, true));
+        }
+        for (int p = 0; p < 3; p++) {
+            for (int e = 0; e < 5; e++) {
+                calls.add("right(" + p + ", " + e + ", true) " + x.right(p, e, true) + " " + y.right(p, e, true));
+            }
+        }
+    }
+
     private static String paperOf(PaperStates x, int n) {
         StringBuilder text = new StringBuilder();
-        for (int i = 0; i < 400 && x.print(n, i) >= 0; i++) {
-            text.append((char) x.print(n, i));
+        int next = x.print(n, 0);
+        for (int i = 1; i < 400 && next >= 0; i++) {
+            text.append((char) next);
+            next = x.print(n, i);
         }
         return text.toString();
     }
@@ -79,7 +100,8 @@ public final class PaperStatesModel {
         String call;
         switch (dice.nextInt(24)) {
             case 0: {
-                int now = dice.nextInt(4) == 0 ? y.today + some(dice, 400) : y.today + some(dice, 3) - (dice.nextInt(9) == 0 ? 1 : 0);
+                int ahead = some(dice, dice.nextInt(20) == 0 ? 400 : 5);
+                int now = y.today + ahead - (dice.nextInt(9) == 0 ? 1 : 0);
                 call = "day(" + now + ")";
                 got = x.day(now);
                 due = y.day(now);
@@ -98,6 +120,9 @@ public final class PaperStatesModel {
                 break;
             }
             case 2: {
+                if (dice.nextInt(3) != 0) {
+                    return true;
+                }
                 int c = some(dice, 6);
                 int days = some(dice, dice.nextInt(5) == 0 ? 1001 : 9);
                 call = "country(" + n + ", " + c + ", " + days + ")";
@@ -107,7 +132,7 @@ public final class PaperStatesModel {
             }
             case 3: {
                 int c = some(dice, 6);
-                boolean yes = dice.nextInt(12) != 0;
+                boolean yes = dice.nextInt(40) != 0;
                 call = "says(" + n + ", " + c + ", " + yes + ")";
                 got = x.says(n, c, yes) ? 1 : 0;
                 due = y.says(n, c, yes);
@@ -135,7 +160,7 @@ public final class PaperStatesModel {
                 break;
             case 8:
             case 9: {
-                boolean on = dice.nextInt(5) != 0;
+                boolean on = dice.nextInt(8) != 0;
                 call = "right(" + p + ", " + e + ", " + on + ")";
                 got = x.right(p, e, on) ? 1 : 0;
                 due = y.right(p, e, on);
@@ -150,7 +175,7 @@ public final class PaperStatesModel {
             case 12:
             case 13:
             case 14:
-                e = e == 4 && dice.nextInt(3) != 0 ? 0 : e == 3 && dice.nextInt(3) != 0 ? 1 : e;
+                e = y.moveState(m) >= 0 && y.moveState(m) < 3 && dice.nextInt(3) != 0 ? y.moveState(m) : e;
                 call = "event(" + m + ", " + e + ", " + p + ")";
                 got = x.event(m, e, p);
                 due = y.event(m, e, p);

@@ -59,8 +59,10 @@ public final class PaperStatesPromises {
 
     private static void duePaper(String what, PaperStates x, int notice, String want) {
         StringBuilder got = new StringBuilder();
-        for (int i = 0; i < 400 && x.print(notice, i) != PaperStates.NONE; i++) {
-            got.append((char) x.print(notice, i));
+        int next = x.print(notice, 0);
+        for (int i = 1; i < 400 && next != PaperStates.NONE; i++) {
+            got.append((char) next);
+            next = x.print(notice, i);
         }
         if (!got.toString().equals(want)) {
             wrong++;
@@ -586,6 +588,9 @@ public final class PaperStatesPromises {
         due("held when marked", y.held(0), 99);
         y.event(0, RECOVER, 0);
         due("held when all is recovered", y.held(0), 0);
+        PaperStates z = agreed(1);
+        z.bank(0, 77);
+        due("held of one gram", z.held(0), 77);
     }
 
     private static void heldLarge() {
@@ -709,6 +714,7 @@ public final class PaperStatesPromises {
         due("no carrier by refused ones", x.back(1, 0), -1);
         due("carrier 0", x.carrier(1, 0), 1);
         due("carrier 0 again", x.carrier(1, 0), -1);
+        due("carrier -1 behind another", x.carrier(1, -1), -1);
         due("carrier 99", x.carrier(1, 99), 2);
         due("carrier 0 later", x.carrier(1, 0), 3);
         due("carrier 4", x.carrier(1, 4), 4);
@@ -769,17 +775,20 @@ public final class PaperStatesPromises {
         PaperStates x = new PaperStates();
         x.notice(1000000000L, 100000, 100000);
         duePaper("longest head", x, 0, "0 1000000000 100000 100000 0");
-        PaperStates y = agreed(1000000000L);
-        StringBuilder want = new StringBuilder("0 1000000000 0 1000 1");
+        x.country(0, 0, 0);
+        x.says(0, 0, true);
+        x.right(0, CANCEL, true);
+        StringBuilder want = new StringBuilder("0 1000000000 100000 100000 1");
         for (int m = 0; m < 12; m++) {
-            y.move(0, 1000000000L, 10);
-            y.event(m, CANCEL, 0);
+            x.move(0, 1000000000L, 100000);
+            x.event(m, CANCEL, 0);
             want.append(',').append(m).append(":1000000000x");
         }
-        duePaper("longest moves", y, 0, want.toString());
+        duePaper("longest paper", x, 0, want.toString());
+        PaperStates y = agreed(50);
+        y.move(0, 50, 10);
         y.day(1001);
-        want.setCharAt(20, '3');
-        duePaper("lapsed", y, 0, want.toString());
+        duePaper("lapsed", y, 0, "0 50 0 1000 3,0:50t");
         PaperStates z = agreed(101);
         z.move(0, 101, 10);
         duePaper("zeros inside", z, 0, "0 101 0 1000 1,0:101t");
